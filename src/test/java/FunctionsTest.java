@@ -236,6 +236,10 @@ public final class FunctionsTest {
         ends("all 0", x, 0, 0, 0);
         Checks.fill(x, 0, Checks.row(0, 2, -2));
         ends("a peak of 1/2", x, 0, 1, 0);
+        Checks.fill(x, 0, Checks.row(0, 1, -1));
+        ends("a peak of 1/4", x, 0, 1, 0);
+        Checks.fill(x, 0, Checks.row(0, 1, -100000));
+        ends("hardly a peak", x, 0, 1, -99999);
         Checks.fill(x, 0, Checks.row(0, -2, 2));
         ends("a valley of -1/2", x, 0, 0, -1);
         Checks.fill(x, 0, Checks.row(-5, 4, -4));
@@ -402,10 +406,19 @@ public final class FunctionsTest {
             Checks.due("12 the same", x.same(1, 2), 1);
             x.piece(2, 1, k == 0 ? 0 : 4, k == 1 ? 0 : 5, k == 2 ? 0 : 6);
             Checks.due("12 other in " + k, x.same(1, 2), 0);
+            x.piece(2, 1, 4, 5, 6);
+            x.piece(2, 0, k == 0 ? 0 : 1, k == 1 ? 0 : 2, k == 2 ? 0 : 3);
+            Checks.due("12 other in " + k + " of the first piece", x.same(1, 2), 0);
         }
+        x.piece(2, 1, 7, 8, 9);
         x.pieces(1, 1);
         x.pieces(2, 1);
         Checks.due("12 what was behind does not count", x.same(1, 2), 1);
+        x.pieces(3, 16);
+        x.pieces(4, 16);
+        Checks.due("12 16 pieces", x.same(3, 4), 1);
+        x.piece(4, 15, 0, 0, 1);
+        Checks.due("12 the last of 16 is other", x.same(3, 4), 0);
         for (int place : Checks.NO_PLACES) {
             Checks.due("12 no such place", x.same(place, 0), -2);
             Checks.due("12 no such place", x.same(0, place), -2);
@@ -438,6 +451,12 @@ public final class FunctionsTest {
             Checks.due("13 no such place", x.meets(place, 0), -2);
             Checks.due("13 no such place", x.meets(0, place), -2);
         }
+        x.pieces(2, 16);
+        x.pieces(3, 16);
+        for (int i = 0; i < 16; i++) {
+            x.piece(2, i, -1, 2, 0);
+        }
+        Checks.due("13 16 pieces", x.meets(2, 3), 16);
         Checks.isFilled("13 nothing changes", x, 0, Checks.row(50000, -100000, 100000));
         Checks.isFilled("13 nothing changes", x, 1, Checks.row(-1, 100000, -100000));
     }

@@ -76,6 +76,14 @@ public final class MadeOfOthersTest {
         Checks.isFilled("14 at the bound below", x, 1, Checks.row(-1000, 1000, -100000));
         Checks.fill(x, 2, Checks.row(1, 1, 1), Checks.row(1, 1, 1));
         Checks.due("14 not ahead of great", x.mix(1, 0, 100, 2, 100), -4);
+        x.pieces(3, 16);
+        x.piece(3, 15, 100, -100, 7);
+        Checks.due("14 16 pieces", x.mix(4, 3, 3, 3, 4), 1);
+        Checks.due("14 16 pieces", x.count(4, 0), 16);
+        Checks.due("14 16 pieces: the last", x.of(4, 15, 2), 49);
+        x.piece(3, 15, 0, 0, 1001);
+        Checks.due("14 great in the last of 16", x.mix(4, 3, 100, 3, 0), -5);
+        Checks.due("14 great changes nothing", x.of(4, 15, 2), 49);
     }
 
     private static void promise15Refine() {
@@ -185,6 +193,12 @@ public final class MadeOfOthersTest {
             Checks.due("17 no such place", x.push(place, 1), -2);
             Checks.due("17 unknown ahead of outside", x.push(place, 100001), -2);
         }
+        x.pieces(3, 16);
+        x.piece(3, 15, 100000, 0, 0);
+        Checks.due("17 great in the last of 16", x.push(3, 1), -5);
+        Checks.due("17 16 pieces", x.push(3, -1), 1);
+        Checks.due("17 16 pieces: the first", x.of(3, 0, 0), -1);
+        Checks.due("17 16 pieces: the last", x.of(3, 15, 0), 99999);
         Checks.isFilled("17 other places stay", x, 4, Checks.row(0, 0, 0));
     }
 }
