@@ -19,9 +19,12 @@ public final class FaceTest {
         "int refine(int,int)", "int slope(int,int)", "int push(int,int)", "int point(int)", "int clear()",
         "int slopes(int,int)", "int best(int)", "long bend(int)", "int spline(int,int)", "int count(int,int)"};
     private static final String[] RULED_OUT = {
-        "throw", "throws", "try", "catch", "finally", "synchronized", "assert", "import", "package", "protected",
-        "transient", "volatile", "native", "Object", "System", "equals", "hashCode", "toString", "double", "float",
-        "addExact", "multiplyExact", "Random"};
+        "throw", "throws", "try", "catch", "finally", "synchronized", "assert", "package", "protected", "native",
+        "Object", "hashCode", "Thread", "Random"};
+    private static final Set<String> IMPORTS = Set.of("java.util.ArrayList", "java.util.Arrays", "java.util.Iterator",
+            "java.util.List");
+    private static final Set<String> LIBRARY = Set.of("System.arraycopy", "Arrays.copyOf", "Arrays.copyOfRange",
+            "Arrays.fill", "List.of");
 
     private FaceTest() {
     }
@@ -59,16 +62,15 @@ public final class FaceTest {
         Checks.holds("the public methods are the document's: " + found, found.equals(due));
         for (Method method : SmoothPieces.class.getDeclaredMethods()) {
             int modifiers = method.getModifiers();
-            Checks.holds(method + " is public or private", Modifier.isPublic(modifiers) || Modifier.isPrivate(modifiers));
+            Checks.holds(method + " is public or private", isOpenOrShut(modifiers));
             Checks.holds(method + " has a name of its own",
                     Modifier.isPublic(modifiers) || !publicNames.contains(method.getName()));
             Checks.holds(method + " takes seven at most", method.getParameterCount() <= 7);
         }
-        for (Class<?> inside : SmoothPieces.class.getDeclaredClasses()) {
-            for (Method method : inside.getDeclaredMethods()) {
-                Checks.holds(method + " has a name of its own", !publicNames.contains(method.getName()));
-            }
-        }
+    }
+
+    private static boolean isOpenOrShut(int modifiers) {
+        return Modifier.isPublic(modifiers) || Modifier.isPrivate(modifiers);
     }
 
     private static void constants() {
@@ -82,8 +84,9 @@ public final class FaceTest {
         for (Field field : SmoothPieces.class.getDeclaredFields()) {
             int modifiers = field.getModifiers();
             open += Modifier.isPublic(modifiers) ? 1 : 0;
-            Checks.holds(field + " is public or private", Modifier.isPublic(modifiers) || Modifier.isPrivate(modifiers));
-            Checks.holds(field + ": static ones are final", !Modifier.isStatic(modifiers) || Modifier.isFinal(modifiers));
+            Checks.holds(field + " is public or private", isOpenOrShut(modifiers));
+            Checks.holds(field + ": static ones are final",
+                    !Modifier.isStatic(modifiers) || Modifier.isFinal(modifiers));
         }
         Checks.due("public constants", open, 6);
     }
@@ -101,7 +104,8 @@ public final class FaceTest {
         for (Class<?> inside : SmoothPieces.class.getDeclaredClasses()) {
             int modifiers = inside.getModifiers();
             Checks.holds(inside + " is static", Modifier.isStatic(modifiers));
-            Checks.holds(inside + " is private", Modifier.isPrivate(modifiers));
+            Checks.holds(inside + " is private or package-visible",
+                    !Modifier.isPublic(modifiers) && !Modifier.isProtected(modifiers));
         }
     }
 
@@ -111,11 +115,20 @@ public final class FaceTest {
             Matcher matcher = Pattern.compile("\\b" + word + "\\b").matcher(code);
             Checks.holds("no " + word + " in the source", !matcher.find());
         }
-        Checks.holds("no lambda, no method reference", !code.contains("->") && !code.contains("::"));
-        Matcher calls = Pattern.compile("\\b(Math|Integer|Long|Arrays|String|List|ArrayList)\\.(\\w+)").matcher(code);
-        Set<String> allowed = Set.of("Math.max", "Math.min", "Math.abs", "Math.floorDiv");
+        for (String line : code.split("\n")) {
+            boolean isArrowOfSwitch = line.contains("case ") || line.contains("default ");
+            Checks.holds("no lambda, no method reference in " + line,
+                    (isArrowOfSwitch || !line.contains("->")) && !line.contains("::"));
+        }
+        Matcher imports = Pattern.compile("\\bimport\\s+([\\w.]+)").matcher(code);
+        while (imports.find()) {
+            Checks.holds(imports.group(1) + " is in the library that is left", IMPORTS.contains(imports.group(1)));
+        }
+        Matcher calls = Pattern.compile("\\b(Math|Integer|Long|System|Arrays|List)\\.(\\w+)").matcher(code);
         while (calls.find()) {
-            Checks.holds(calls.group() + " is in the library that is left", allowed.contains(calls.group()));
+            boolean isOfNumbers = Set.of("Math", "Integer", "Long").contains(calls.group(1));
+            Checks.holds(calls.group() + " is in the library that is left",
+                    isOfNumbers ? !calls.group(2).endsWith("Exact") : LIBRARY.contains(calls.group()));
         }
     }
 }

@@ -123,7 +123,8 @@ public final class FunctionsTest {
         Checks.fill(x, 0, Checks.row(100000, 100000, 100000));
         Checks.fraction("5 great values", x, 0, 63, 64, 37803125L, 128);
         Checks.fill(x, 0, Checks.row(-100000, -100000, -99999));
-        Checks.fraction("5 great values below 0", x, 0, 63, 64, -(4096L * 100000 + 4032L * 100000 + 3969L * 99999), 4096);
+        long great = 4096L * 100000 + 4032L * 100000 + 3969L * 99999;
+        Checks.fraction("5 great values below 0", x, 0, 63, 64, -great, 4096);
         x.pieces(3, 16);
         x.piece(3, 15, 5, 0, 1);
         Checks.fraction("5 the last of 16", x, 3, 16, 1, 6, 1);

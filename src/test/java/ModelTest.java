@@ -169,7 +169,8 @@ public final class ModelTest {
         int s = within(random.nextInt(3) == 0 ? 1000 : 20);
         if (kind < 52) {
             int k = model.pointCount();
-            int y = odd(within(trend == 0 && curve == 0 ? pointReach : 1 + pointReach / 200) + trend * k + curve * k * k);
+            int stray = within(trend == 0 && curve == 0 ? pointReach : 1 + pointReach / 200);
+            int y = odd(stray + trend * k + curve * k * k);
             compare(run, "point", new long[] {y}, real.point(y), model.point(y));
         } else if (kind == 52) {
             compare(run, "clear", new long[0], real.clear(), model.clear());
