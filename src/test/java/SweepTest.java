@@ -5,8 +5,9 @@ import java.util.List;
 import java.util.Map;
 
 /**
- * Each call with all its edge numbers in all combinations, each time on an object of its own in a full state: its
- * answer and the whole state behind it are compared with the slow model's.
+ * Each call with a set of edge numbers for each argument (of five arguments the sets are smaller), in all combinations
+ * of these sets, each time on an object of its own in a full state: its answer and all places and points behind it are
+ * compared with the slow model's.
  */
 public final class SweepTest {
     private static final int MIN = Integer.MIN_VALUE, MAX = Integer.MAX_VALUE;
